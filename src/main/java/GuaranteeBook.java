@@ -429,12 +429,11 @@ public final class GuaranteeBook {
         private int parts;
         private int holder;
         private long debt;
-        private int state;
+        private int state = LIVE;
 
         void beginFor(int holder, long debt) {
             this.holder = holder;
             this.debt = debt;
-            this.state = LIVE;
             this.parts = 0;
         }
 
@@ -494,7 +493,7 @@ public final class GuaranteeBook {
         long takeFromAmounts(long cents, int day) {
             long left = cents;
             long lost = 0;
-            for (int i = 0; i < parts && left > 0; i++) {
+            for (int i = 0; i < parts; i++) {
                 Guarantee g = from[i];
                 long taken = Math.min(left, covers[i]);
                 left -= taken;

@@ -14,6 +14,7 @@ public final class ReservationsTest {
         promise4WrongInputs();
         promise4Sixty();
         promise5End();
+        promise5EndOfFourParts();
         promise5WrongInputs();
         promise6Reduce();
         promise6WrongInputs();
@@ -188,6 +189,30 @@ public final class ReservationsTest {
         book.claim(3, 1);
         Check.due("a claimed one has ended", 0, book.end(3, 1));
         Check.due("it stays claimed", 3, book.of(3, 3));
+    }
+
+    private static void promise5EndOfFourParts() {
+        GuaranteeBook book = withAmounts(0, 10, 10, 10, 10, 10);
+        String before = State.of(book);
+        Check.due("a try with too many parts", -52, book.reserve(0, 0, 50));
+        book.reserve(0, 0, 1);
+        book.end(1, 1);
+        book.reserve(0, 0, 40);
+        book.end(2, 2);
+        book.reserve(0, 0, 36);
+        Check.due("four parts reduced to one", 1, book.reduce(3, 35));
+        book.end(3, 1);
+        for (int guarantee = 1; guarantee <= 5; guarantee++) {
+            Check.due("nothing is needed", 0, book.look(guarantee, 2));
+            Check.due("no reservation", 0, book.look(guarantee, 5));
+        }
+        Check.due("amounts and free as before", before.substring(before.indexOf('\n')),
+                State.of(book).substring(State.of(book).indexOf('\n'), State.of(book).indexOf("\nreservation")));
+        book.reserve(0, 0, 40);
+        Check.due("four parts claimed", 35, book.claim(4, 35));
+        Check.due("amount of the fourth", 5, book.look(4, 1));
+        Check.due("amount of the fifth", 10, book.look(5, 1));
+        Check.due("nothing of the fourth is needed", 0, book.look(4, 2));
     }
 
     private static void promise5WrongInputs() {
