@@ -1,9 +1,16 @@
+import java.lang.reflect.InvocationTargetException;
+import java.lang.reflect.Method;
+import java.lang.reflect.Modifier;
+import java.util.Arrays;
+import java.util.Comparator;
 import java.util.Objects;
+import java.util.function.Supplier;
 
 /** Counts and prints what is not as due; a test's main ends with report(). */
 final class Check {
     private static int checks = 0;
     private static int wrong = 0;
+    private static String test = "";
 
     private Check() {
     }
@@ -12,7 +19,7 @@ final class Check {
         checks++;
         if (!Objects.equals(want, got)) {
             wrong++;
-            System.out.println(what + " answered " + got + ", due is " + want);
+            System.out.println(test + what + " answered " + got + ", due is " + want);
         }
     }
 
@@ -24,26 +31,36 @@ final class Check {
         due(what, Boolean.valueOf(want), Boolean.valueOf(got));
     }
 
-    /** Only the very class counts: an ArrayIndexOutOfBoundsException of the machine is not the document's. */
-    static void dueThrow(String what, Class<? extends RuntimeException> want, Runnable call) {
-        due(what, want, thrownBy(call));
+    /** The due answer is one of Answer's, or the text of a value. */
+    static void dueOf(String what, Object want, Supplier<Object> call) {
+        due(what, String.valueOf(want), Answer.of(call));
     }
 
-    /** The call throws as due, and the book tells all the same behind it as before it. */
-    static void dueThrowAndNoChange(
-            String what, Class<? extends RuntimeException> want, GuaranteeBook book, Runnable call) {
-        String before = State.of(book);
-        dueThrow(what, want, call);
-        due("the state behind " + what, before, State.of(book));
-    }
-
-    private static Class<? extends RuntimeException> thrownBy(Runnable call) {
-        try {
-            call.run();
-            return null;
-        } catch (RuntimeException e) {
-            return e.getClass();
+    /** Runs every test of a class, so that none is written and then forgotten: static, void, without arguments. */
+    static void runAll(Class<?> tests) {
+        Method[] methods = tests.getDeclaredMethods();
+        Arrays.sort(methods, Comparator.comparing(Method::getName));
+        for (Method method : methods) {
+            boolean bare = method.getParameterCount() == 0 && method.getReturnType() == void.class;
+            if (bare && Modifier.isStatic(method.getModifiers()) && !method.isSynthetic()) {
+                run(method);
+            }
         }
+        report();
+    }
+
+    private static void run(Method method) {
+        test = method.getName() + ": ";
+        int before = checks;
+        try {
+            method.setAccessible(true);
+            method.invoke(null);
+        } catch (InvocationTargetException e) {
+            due("the test", "an end", e.getCause());
+        } catch (IllegalAccessException e) {
+            due("the test", "a start", e);
+        }
+        due("the test looks at something", true, checks > before);
     }
 
     static void report() {

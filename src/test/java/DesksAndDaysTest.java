@@ -1,21 +1,7 @@
 /** Promises 9, 10, 11 and 16: desks that fail, days, interest and counts. */
 public final class DesksAndDaysTest {
-    private static final Class<IllegalArgumentException> IAE = IllegalArgumentException.class;
-
     public static void main(String[] args) {
-        promise9Fails();
-        promise9NothingIsLeft();
-        promise9RefusedIsNoFailure();
-        promise10Tick();
-        promise11Interest();
-        promise11RowsAreRoundedDown();
-        promise11AmountsThatStay();
-        promise11ManyChanges();
-        promise11Closed();
-        promise11Most();
-        promise11WrongInputs();
-        promise16Count();
-        Check.report();
+        Check.runAll(DesksAndDaysTest.class);
     }
 
     private static GuaranteeBook withAmount(long amount, int rate) {
@@ -24,7 +10,7 @@ public final class DesksAndDaysTest {
         return book;
     }
 
-    private static void promise9Fails() {
+    private static void promise09Fails() {
         GuaranteeBook book = withAmount(100, 0);
         for (int desk = 0; desk < 4; desk++) {
             Check.due("off while off", false, book.fails(desk, false));
@@ -48,7 +34,7 @@ public final class DesksAndDaysTest {
         Check.due("failures of desk 1", 0, book.count(11));
     }
 
-    private static void promise9NothingIsLeft() {
+    private static void promise09NothingIsLeft() {
         GuaranteeBook book = new GuaranteeBook();
         book.guarantee(0, 10, 2, 3, true, 5);
         book.guarantee(0, 10, 1, 1, false, 5);
@@ -73,7 +59,7 @@ public final class DesksAndDaysTest {
         Check.due("so is what is needed", same.look(1, 2), book.look(1, 2));
     }
 
-    private static void promise9RefusedIsNoFailure() {
+    private static void promise09RefusedIsNoFailure() {
         GuaranteeBook book = withAmount(100, 0);
         book.fails(0, true);
         Check.due("refused", -102, book.reserve(0, 0, 101));
@@ -202,13 +188,6 @@ public final class DesksAndDaysTest {
         GuaranteeBook book = withAmount(1000000000L, 1000);
         book.tick(100000);
         Check.due("the most of all", 27397260273L, book.interest(1));
-    }
-
-    private static void promise11WrongInputs() {
-        GuaranteeBook book = withAmount(5, 1);
-        for (int none : new int[] {0, -1, 2, 20, 21, Integer.MIN_VALUE, Integer.MAX_VALUE}) {
-            Check.dueThrowAndNoChange("interest(" + none + ")", IAE, book, () -> book.interest(none));
-        }
     }
 
     private static void promise16Count() {

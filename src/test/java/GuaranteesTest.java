@@ -1,28 +1,10 @@
 /** Promises 1, 2, 3, 8, 12, 13 and 14: guarantees, their order, and what they tell. */
 public final class GuaranteesTest {
-    private static final Class<IllegalArgumentException> IAE = IllegalArgumentException.class;
-    private static final Class<IllegalStateException> ISE = IllegalStateException.class;
-    private static final Class<IndexOutOfBoundsException> IOOBE = IndexOutOfBoundsException.class;
-
     public static void main(String[] args) {
-        promise1NewObject();
-        promise1ObjectsShareNothing();
-        promise2Guarantee();
-        promise2WrongInputs();
-        promise2Twenty();
-        promise3First();
-        promise8Close();
-        promise12Free();
-        promise13List();
-        promise14Look();
-        promise14Rounding();
-        promise14ShareOfZero();
-        promise14Risk();
-        promise14WrongInputs();
-        Check.report();
+        Check.runAll(GuaranteesTest.class);
     }
 
-    private static void promise1NewObject() {
+    private static void promise01NewObject() {
         GuaranteeBook book = new GuaranteeBook();
         Check.due("new: guarantees", 0, book.count(0));
         Check.due("new: reservations", 0, book.count(1));
@@ -39,11 +21,11 @@ public final class GuaranteesTest {
         }
         Check.due("new: first", false, book.first(1));
         Check.due("new: close", false, book.close(1));
-        Check.dueThrow("new: look", IOOBE, () -> book.look(1, 0));
-        Check.dueThrow("new: of", IOOBE, () -> book.of(1, 0));
+        Check.dueOf("new: look", Answer.IOOBE, () -> book.look(1, 0));
+        Check.dueOf("new: of", Answer.IOOBE, () -> book.of(1, 0));
     }
 
-    private static void promise1ObjectsShareNothing() {
+    private static void promise01ObjectsShareNothing() {
         GuaranteeBook one = new GuaranteeBook();
         GuaranteeBook other = new GuaranteeBook();
         String before = State.of(other);
@@ -55,7 +37,7 @@ public final class GuaranteesTest {
         Check.due("the other book", before, State.of(other));
     }
 
-    private static void promise2Guarantee() {
+    private static void promise02Guarantee() {
         GuaranteeBook book = new GuaranteeBook();
         Check.due("the least of all", 1, book.guarantee(0, 1, 0, 1, false, 0));
         Check.due("the most of all", 2, book.guarantee(7, 1000000000L, 100, 100, true, 1000));
@@ -70,50 +52,6 @@ public final class GuaranteesTest {
         }
         Check.due("free of a new one", 5, book.look(4, 3));
         Check.due("a new one may cover", 5, book.look(4, 4));
-    }
-
-    private static void refused(GuaranteeBook book, int holder, long amount, int up, int down, int rate) {
-        String call = "guarantee " + holder + " " + amount + " " + up + "/" + down + " " + rate;
-        Check.dueThrowAndNoChange(call, IAE, book, () -> book.guarantee(holder, amount, up, down, false, rate));
-    }
-
-    private static void promise2WrongInputs() {
-        GuaranteeBook book = new GuaranteeBook();
-        book.guarantee(3, 9, 1, 1, false, 0);
-        refused(book, -1, 1, 0, 1, 0);
-        refused(book, 8, 1, 0, 1, 0);
-        refused(book, Integer.MIN_VALUE, 1, 0, 1, 0);
-        refused(book, Integer.MAX_VALUE, 1, 0, 1, 0);
-        refused(book, 0, 0, 0, 1, 0);
-        refused(book, 0, -1, 0, 1, 0);
-        refused(book, 0, 1000000001L, 0, 1, 0);
-        refused(book, 0, Long.MIN_VALUE, 0, 1, 0);
-        refused(book, 0, Long.MAX_VALUE, 0, 1, 0);
-        // The low 32 bits of this amount would be a good one.
-        refused(book, 0, (1L << 32) + 5, 0, 1, 0);
-        refused(book, 0, 1, -1, 1, 0);
-        refused(book, 0, 1, 0, 0, 0);
-        refused(book, 0, 1, 0, -1, 0);
-        refused(book, 0, 1, -2, -1, 0);
-        refused(book, 0, 1, 0, 101, 0);
-        refused(book, 0, 1, 101, 101, 0);
-        refused(book, 0, 1, 2, 1, 0);
-        refused(book, 0, 1, 100, 99, 0);
-        refused(book, 0, 1, Integer.MIN_VALUE, Integer.MAX_VALUE, 0);
-        refused(book, 0, 1, 0, 1, -1);
-        refused(book, 0, 1, 0, 1, 1001);
-    }
-
-    private static void promise2Twenty() {
-        GuaranteeBook book = new GuaranteeBook();
-        for (int i = 1; i <= 20; i++) {
-            Check.due("guarantee " + i, i, book.guarantee(i % 8, i, 1, 1, false, 0));
-        }
-        Check.dueThrowAndNoChange("a 21st", ISE, book, () -> book.guarantee(0, 1, 1, 1, false, 0));
-        Check.dueThrow("a 21st that can't be", IAE, () -> book.guarantee(8, 1, 1, 1, false, 0));
-        book.close(1);
-        Check.dueThrow("a 21st, one closed", ISE, () -> book.guarantee(0, 1, 1, 1, false, 0));
-        Check.due("the 20th", 20, book.look(20, 1));
     }
 
     private static GuaranteeBook ofOneHolder(int holder, int many) {
@@ -131,7 +69,7 @@ public final class GuaranteesTest {
         Check.due(when + ", behind the last", -1, book.list(holder, numbers.length));
     }
 
-    private static void promise3First() {
+    private static void promise03First() {
         GuaranteeBook book = ofOneHolder(2, 3);
         book.guarantee(5, 10, 1, 1, false, 0);
         Check.due("first of the first", false, book.first(1));
@@ -157,7 +95,7 @@ public final class GuaranteesTest {
         order("behind first of a closed one", book, 2, 3, 5, 2, 1);
     }
 
-    private static void promise8Close() {
+    private static void promise08Close() {
         GuaranteeBook book = ofOneHolder(0, 2);
         book.reserve(0, 0, 15);
         for (int none : new int[] {0, -1, 3, 20, Integer.MIN_VALUE, Integer.MAX_VALUE}) {
@@ -292,15 +230,5 @@ public final class GuaranteesTest {
         told("less at risk", book, 1, 0, 30, 35, 0, 0, 1, 0, 5, 70);
         Check.due("reduced more", 50, book.reduce(2, 20));
         told("no more at risk", book, 1, 0, 30, 25, 5, 10, 1, 0, 0, 70);
-    }
-
-    private static void promise14WrongInputs() {
-        GuaranteeBook book = ofOneHolder(0, 1);
-        for (int none : new int[] {0, -1, 2, 20, 21, Integer.MIN_VALUE, Integer.MAX_VALUE}) {
-            Check.dueThrow("look(" + none + ", 0)", IOOBE, () -> book.look(none, 0));
-        }
-        for (int none : new int[] {-1, 9, 10, Integer.MIN_VALUE, Integer.MAX_VALUE}) {
-            Check.dueThrow("look(1, " + none + ")", IOOBE, () -> book.look(1, none));
-        }
     }
 }

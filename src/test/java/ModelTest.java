@@ -45,17 +45,9 @@ public final class ModelTest {
         Check.due("seed " + seed, true, true);
     }
 
-    private static Object answer(Supplier<Object> one) {
-        try {
-            return one.get();
-        } catch (RuntimeException e) {
-            return "throws." + e.getClass().getSimpleName();
-        }
-    }
-
     private Supplier<Object[]> both(String text, Supplier<Object> ofBook, Supplier<Object> ofModel) {
         call = text;
-        return () -> new Object[] {answer(ofBook), answer(ofModel)};
+        return () -> new Object[] {Answer.of(ofBook), Answer.of(ofModel)};
     }
 
     private int pick(int least, int past) {

@@ -1,29 +1,7 @@
 /** Promises 4, 5, 6, 7 and 15: reservations, how they end, and what they tell. */
 public final class ReservationsTest {
-    private static final Class<IllegalArgumentException> IAE = IllegalArgumentException.class;
-    private static final Class<IllegalStateException> ISE = IllegalStateException.class;
-    private static final Class<IndexOutOfBoundsException> IOOBE = IndexOutOfBoundsException.class;
-    private static final int[] NO_RESERVATIONS = {0, -1, 2, 60, 61, Integer.MIN_VALUE, Integer.MAX_VALUE};
-
     public static void main(String[] args) {
-        promise4InOrder();
-        promise4AllOrNothing();
-        promise4FourParts();
-        promise4Single();
-        promise4Most();
-        promise4WrongInputs();
-        promise4Sixty();
-        promise5End();
-        promise5EndOfFourParts();
-        promise5WrongInputs();
-        promise6Reduce();
-        promise6WrongInputs();
-        promise7Claim();
-        promise7ClaimMoreThanAmount();
-        promise7WrongInputs();
-        promise15Of();
-        promise15WrongInputs();
-        Check.report();
+        Check.runAll(ReservationsTest.class);
     }
 
     private static GuaranteeBook withAmounts(int holder, long... amounts) {
@@ -46,12 +24,12 @@ public final class ReservationsTest {
         Check.due(when + ": covers", sum, book.of(reservation, 2));
         for (int part = due.length / 2; part < 4; part++) {
             int none = part;
-            Check.dueThrow(when + ": no part " + part, IOOBE, () -> book.of(reservation, 9 + none));
-            Check.dueThrow(when + ": no guarantee " + part, IOOBE, () -> book.of(reservation, 5 + none));
+            Check.dueOf(when + ": no part " + part, Answer.IOOBE, () -> book.of(reservation, 9 + none));
+            Check.dueOf(when + ": no guarantee " + part, Answer.IOOBE, () -> book.of(reservation, 5 + none));
         }
     }
 
-    private static void promise4InOrder() {
+    private static void promise04InOrder() {
         GuaranteeBook book = withAmounts(1, 10, 20, 30);
         book.guarantee(2, 500, 1, 1, false, 0);
         Check.due("of the first alone", 1, book.reserve(0, 1, 4));
@@ -68,7 +46,7 @@ public final class ReservationsTest {
         Check.due("reservations", 4, book.count(1));
     }
 
-    private static void promise4AllOrNothing() {
+    private static void promise04AllOrNothing() {
         GuaranteeBook book = withAmounts(1, 10, 20);
         String before = State.of(book);
         Check.due("one cent too many", -32, book.reserve(0, 1, 31));
@@ -80,7 +58,7 @@ public final class ReservationsTest {
         Check.due("a holder without guarantees", -2, book.reserve(0, 0, 1));
     }
 
-    private static void promise4FourParts() {
+    private static void promise04FourParts() {
         GuaranteeBook book = withAmounts(6, 10, 10, 10, 10, 10);
         String before = State.of(book);
         Check.due("five parts", -52, book.reserve(0, 6, 41));
@@ -91,7 +69,7 @@ public final class ReservationsTest {
         parts("those used up don't count", book, 2, 5, 10);
     }
 
-    private static void promise4Single() {
+    private static void promise04Single() {
         GuaranteeBook book = new GuaranteeBook();
         book.guarantee(0, 10, 1, 1, true, 0);
         book.guarantee(0, 20, 1, 1, false, 0);
@@ -113,7 +91,7 @@ public final class ReservationsTest {
         Check.due("without its part it is free", 10, book.look(1, 4));
     }
 
-    private static void promise4Most() {
+    private static void promise04Most() {
         GuaranteeBook book = withAmounts(0, 1000000000L, 1000000000L, 1000000000L, 1000000000L, 1000000000L);
         book.guarantee(1, 10000000L, 1, 100, false, 0);
         Check.due("the most at once", 1, book.reserve(0, 0, 1000000000L));
@@ -126,45 +104,7 @@ public final class ReservationsTest {
         Check.due("refused for parts, at most 2000000000", -2000000002, book.reserve(0, 2, 6));
     }
 
-    private static void refused(GuaranteeBook book, int desk, int holder, long cents) {
-        String call = "reserve(" + desk + ", " + holder + ", " + cents + ")";
-        Check.dueThrowAndNoChange(call, IAE, book, () -> book.reserve(desk, holder, cents));
-    }
-
-    private static void promise4WrongInputs() {
-        GuaranteeBook book = withAmounts(0, 100);
-        for (int none : new int[] {-1, 4, Integer.MIN_VALUE, Integer.MAX_VALUE}) {
-            refused(book, none, 0, 1);
-        }
-        for (int none : new int[] {-1, 8, Integer.MIN_VALUE, Integer.MAX_VALUE}) {
-            refused(book, 0, none, 1);
-        }
-        for (long none : new long[] {0, -1, 1000000001L, (1L << 32) + 1, Long.MIN_VALUE, Long.MAX_VALUE}) {
-            refused(book, 0, 0, none);
-        }
-        book.fails(0, true);
-        refused(book, 0, 0, 0);
-        Check.due("the desk is to fail still", false, book.fails(0, true));
-    }
-
-    private static void promise4Sixty() {
-        GuaranteeBook book = withAmounts(0, 100);
-        for (int i = 1; i <= 60; i++) {
-            Check.due("reservation " + i, i, book.reserve(0, 0, 1));
-        }
-        book.end(1, 1);
-        Check.dueThrowAndNoChange("a 61st", ISE, book, () -> book.reserve(0, 0, 1));
-        Check.dueThrowAndNoChange("a 61st that can't be covered", ISE, book, () -> book.reserve(0, 0, 1000));
-        Check.dueThrow("a 61st at no desk", IAE, () -> book.reserve(4, 0, 1));
-        book.fails(1, true);
-        Check.dueThrowAndNoChange("a 61st at a desk to fail", ISE, book, () -> book.reserve(1, 0, 1));
-        Check.due("that desk is to fail still", false, book.fails(1, true));
-        Check.due("the 60th", 1, book.of(60, 2));
-        Check.due("all", 60, book.count(1));
-        Check.due("live", 59, book.count(2));
-    }
-
-    private static void promise5End() {
+    private static void promise05End() {
         GuaranteeBook book = withAmounts(3, 10, 20);
         book.reserve(0, 3, 15);
         book.reserve(0, 3, 5);
@@ -191,7 +131,7 @@ public final class ReservationsTest {
         Check.due("it stays claimed", 3, book.of(3, 3));
     }
 
-    private static void promise5EndOfFourParts() {
+    private static void promise05EndOfFourParts() {
         GuaranteeBook book = withAmounts(0, 10, 10, 10, 10, 10);
         String before = State.of(book);
         Check.due("a try with too many parts", -52, book.reserve(0, 0, 50));
@@ -215,20 +155,7 @@ public final class ReservationsTest {
         Check.due("nothing of the fourth is needed", 0, book.look(4, 2));
     }
 
-    private static void promise5WrongInputs() {
-        GuaranteeBook book = withAmounts(0, 10);
-        book.reserve(0, 0, 5);
-        for (int none : NO_RESERVATIONS) {
-            Check.dueThrowAndNoChange("end(" + none + ", 1)", IAE, book, () -> book.end(none, 1));
-        }
-        for (int how : new int[] {0, 3, -1, 4, Integer.MIN_VALUE, Integer.MAX_VALUE}) {
-            Check.dueThrowAndNoChange("end(1, " + how + ")", IAE, book, () -> book.end(1, how));
-        }
-        book.end(1, 1);
-        Check.dueThrow("how is looked at for an ended one too", IAE, () -> book.end(1, 3));
-    }
-
-    private static void promise6Reduce() {
+    private static void promise06Reduce() {
         GuaranteeBook book = withAmounts(0, 10, 10, 10);
         book.reserve(0, 0, 25);
         Check.due("less of the last", 23, book.reduce(1, 2));
@@ -260,20 +187,7 @@ public final class ReservationsTest {
         Check.due("needed is rounded up anew", 66, shared.look(1, 2));
     }
 
-    private static void promise6WrongInputs() {
-        GuaranteeBook book = withAmounts(0, 10);
-        book.reserve(0, 0, 5);
-        for (int none : NO_RESERVATIONS) {
-            Check.dueThrowAndNoChange("reduce(" + none + ", 1)", IAE, book, () -> book.reduce(none, 1));
-        }
-        for (long cents : new long[] {0, -1, Long.MIN_VALUE}) {
-            Check.dueThrowAndNoChange("reduce(1, " + cents + ")", IAE, book, () -> book.reduce(1, cents));
-        }
-        book.end(1, 1);
-        Check.dueThrow("cents are looked at for an ended one too", IAE, () -> book.reduce(1, 0));
-    }
-
-    private static void promise7Claim() {
+    private static void promise07Claim() {
         GuaranteeBook book = withAmounts(0, 10, 20, 30);
         book.reserve(0, 0, 35);
         Check.due("more than it covers", -1, book.claim(1, 36));
@@ -304,7 +218,7 @@ public final class ReservationsTest {
         Check.due("a released one", -1, book.claim(3, 1));
     }
 
-    private static void promise7ClaimMoreThanAmount() {
+    private static void promise07ClaimMoreThanAmount() {
         GuaranteeBook book = new GuaranteeBook();
         book.guarantee(0, 10, 1, 4, false, 0);
         book.guarantee(0, 50, 1, 2, false, 0);
@@ -330,22 +244,6 @@ public final class ReservationsTest {
         Check.due("claimed so far", 3, book.look(3, 8));
     }
 
-    private static void promise7WrongInputs() {
-        GuaranteeBook book = withAmounts(0, 10);
-        book.reserve(0, 0, 5);
-        for (int none : NO_RESERVATIONS) {
-            Check.dueThrowAndNoChange("claim(" + none + ", 1)", IAE, book, () -> book.claim(none, 1));
-        }
-        for (long cents : new long[] {0, -1, Long.MIN_VALUE}) {
-            Check.dueThrowAndNoChange("claim(1, " + cents + ")", IAE, book, () -> book.claim(1, cents));
-        }
-        String before = State.of(book);
-        Check.due("claim of more", -1, book.claim(1, 6));
-        Check.due("claim of more changes nothing", before, State.of(book));
-        book.end(1, 1);
-        Check.dueThrow("cents are looked at for an ended one too", IAE, () -> book.claim(1, 0));
-    }
-
     private static void promise15Of() {
         GuaranteeBook book = withAmounts(5, 3, 4, 5, 6);
         book.reserve(2, 5, 17);
@@ -362,16 +260,5 @@ public final class ReservationsTest {
             Check.due("ended: of(1, " + what + ")", ended[what], book.of(1, what));
         }
         parts("ended", book, 1);
-    }
-
-    private static void promise15WrongInputs() {
-        GuaranteeBook book = withAmounts(0, 10, 10, 10, 10);
-        book.reserve(0, 0, 40);
-        for (int none : NO_RESERVATIONS) {
-            Check.dueThrow("of(" + none + ", 0)", IOOBE, () -> book.of(none, 0));
-        }
-        for (int none : new int[] {-1, 13, 14, Integer.MIN_VALUE, Integer.MIN_VALUE + 8, Integer.MAX_VALUE}) {
-            Check.dueThrow("of(1, " + none + ")", IOOBE, () -> book.of(1, none));
-        }
     }
 }
