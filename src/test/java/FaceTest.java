@@ -35,6 +35,7 @@ public final class FaceTest {
         methods(face);
         fields(face);
         constructors(face);
+        inside(face);
         Check.report();
     }
 
@@ -74,5 +75,34 @@ public final class FaceTest {
             seen.add(constructor.toString());
         }
         Check.due("the constructors", Set.of("public GuaranteeBook()"), seen);
+    }
+
+    /** What rules 1, 2, 5 and 11 of the language bound: classes, their fields, and methods' parameters. */
+    private static void inside(Class<?> face) {
+        Class<?>[] classes = face.getDeclaredClasses();
+        Check.due("at most 12 classes with the face's own", true, classes.length < 12);
+        bounded(face);
+        for (Class<?> own : classes) {
+            int modifiers = own.getModifiers();
+            Check.due(own + " is static", true, Modifier.isStatic(modifiers));
+            Check.due(own + " is hidden", false, Modifier.isPublic(modifiers) || Modifier.isProtected(modifiers));
+            bounded(own);
+        }
+    }
+
+    private static void bounded(Class<?> own) {
+        int fields = 0;
+        for (Field field : own.getDeclaredFields()) {
+            boolean constant = Modifier.isStatic(field.getModifiers());
+            Check.due(field + " is no state of the class", true, !constant || Modifier.isFinal(field.getModifiers()));
+            fields += constant ? 0 : 1;
+        }
+        Check.due(own + " has at most 20 fields", true, fields <= 20);
+        for (Method method : own.getDeclaredMethods()) {
+            Check.due(method + " takes at most 7", true, method.getParameterCount() <= 7);
+        }
+        for (Constructor<?> constructor : own.getDeclaredConstructors()) {
+            Check.due(constructor + " takes at most 7", true, constructor.getParameterCount() <= 7);
+        }
     }
 }

@@ -83,6 +83,35 @@ public final class ReservationBoundsTest {
         }
     }
 
+    /** Promise 4 with "each covers as much as it may and as is still wanted": at and next to each guarantee's end. */
+    private static void promise04AsMuchAsIsStillWanted() {
+        reserved(1, 1, 1);
+        reserved(9, 1, 9);
+        reserved(10, 1, 10);
+        reserved(11, 1, 10, 2, 1);
+        reserved(29, 1, 10, 2, 19);
+        reserved(30, 1, 10, 2, 20);
+        reserved(31, 1, 10, 2, 20, 3, 1);
+        reserved(59, 1, 10, 2, 20, 3, 29);
+        reserved(60, 1, 10, 2, 20, 3, 30);
+        reserved(61, 1, 10, 2, 20, 3, 30, 4, 1);
+        reserved(99, 1, 10, 2, 20, 3, 30, 4, 39);
+        reserved(100, 1, 10, 2, 20, 3, 30, 4, 40);
+    }
+
+    private static void reserved(long cents, long... due) {
+        GuaranteeBook book = made(amounts(10, 20, 30, 40, 50));
+        String when = "reserved " + cents;
+        Check.due(when, 1, book.reserve(0, 0, cents));
+        parts(when, book, 1, due);
+        for (int number = 1; number <= 5; number++) {
+            boolean there = 2 * number <= due.length;
+            Check.due(when + ": NEEDED of " + number, there ? due[2 * number - 1] : 0, book.look(number, 2));
+            Check.due(when + ": reservations of " + number, there ? 1 : 0, book.look(number, 5));
+        }
+        Check.due(when + ": free", 150 - cents, book.free(0));
+    }
+
     /** Promise 4, "refused, -2 less what all of the holder's may cover together": with nothing, for each cause. */
     private static void promise04RefusedWithNothing() {
         NoTrace.due("no guarantees", -2, Books.EMPTY, b -> b.reserve(0, 0, 1));

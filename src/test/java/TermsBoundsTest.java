@@ -108,6 +108,23 @@ public final class TermsBoundsTest {
         }
     }
 
+    /** The same where four parts are made and undone, a SINGLE one, a share of 0 and a small one among them. */
+    private static void desksThatFailLeaveFourPartsAsTheyWere() {
+        Consumer<GuaranteeBook> made = book -> {
+            book.guarantee(0, 10, 1, 1, true, 0);
+            book.guarantee(0, 10, 1, 3, false, 0);
+            book.guarantee(0, 5475000, 1, 1, true, 1);
+            book.guarantee(0, 1, 0, 1, true, 0);
+            book.tick(1);
+        };
+        Consumer<GuaranteeBook> failed = made.andThen(book -> {
+            book.fails(3, true);
+            Check.due("the desk fails", -1, book.reserve(3, 0, 900000000L));
+            book.tick(1);
+        });
+        NoTrace.alike("failed", EnumSet.complementOf(EnumSet.of(Later.FAILURES)), made, failed);
+    }
+
     /** "An object is used for at most 512 calls": the 512th is answered as well as the first. */
     private static void the512thCallIsAnswered() {
         GuaranteeBook book = new GuaranteeBook();
@@ -331,6 +348,28 @@ public final class TermsBoundsTest {
         Check.due("new guarantees of the holder", 4, book.guarantee(0, 10, 1, 1, false, 0));
         Check.due("cover new reservations", 2, book.reserve(0, 0, 10));
         Check.due("alone", 4, book.of(2, 5));
+    }
+
+    /** "0 if it is CLOSED": of any share, SINGLE or not, in use or not; what all may cover together is less by it. */
+    private static void aClosedOneMayCoverNothing() {
+        for (int up = 0; up <= 2; up++) {
+            for (int used = 0; used <= 1; used++) {
+                GuaranteeBook book = new GuaranteeBook();
+                book.guarantee(0, 100, up, 2, up == 1, 0);
+                book.guarantee(0, 7, 1, 1, false, 0);
+                if (used == 1) {
+                    book.reserve(0, 0, 10);
+                }
+                book.close(1);
+                Check.due("MAY COVER", 0, book.look(1, 4));
+                Check.due("FREE", 100 - used * 5 * up, book.look(1, 3));
+                Check.due("free of the holder", 7, book.free(0));
+                Check.due("refused", -9, book.reserve(0, 0, 8));
+                Check.due("by the other", used + 1, book.reserve(0, 0, 7));
+                Check.due("alone", 1, book.of(used + 1, 4));
+                Check.due("by the other", 2, book.of(used + 1, 5));
+            }
+        }
     }
 
     /** "To COVER x cents it NEEDS x * up / down, rounded up": at and next to where it is exact, far above an int. */
