@@ -109,7 +109,8 @@ public final class ModelTest {
         int desk = pick(0, 4);
         int holder = pick(0, holders);
         long together = Math.max(1, model.free(holder));
-        long cents = random.nextInt(4) == 0 ? together + random.nextInt(3) - 1 : cents(together / (1 + random.nextInt(5)));
+        long nearTheMost = together + random.nextInt(3) - 1;
+        long cents = random.nextInt(4) == 0 ? nearTheMost : cents(together / (1 + random.nextInt(5)));
         return both("reserve " + desk + " " + holder + " " + cents,
                 () -> book.reserve(desk, holder, cents), () -> model.reserve(desk, holder, cents));
     }

@@ -186,7 +186,8 @@ public final class TermsBoundsTest {
             GuaranteeBook book = withAmounts(0, 10);
             Check.due("desk " + desk + " is told", true, book.fails(desk, true));
             for (int other = 0; other <= 3; other++) {
-                Check.due("desk " + other + " while " + desk + " is to fail", other == desk, book.reserve(other, 0, 1) < 0);
+                boolean failed = book.reserve(other, 0, 1) == -1;
+                Check.due("desk " + other + " fails while " + desk + " is to", other == desk, failed);
                 Check.due("failures of " + other, other == desk ? 1 : 0, book.count(10 + other));
             }
         }
@@ -204,7 +205,7 @@ public final class TermsBoundsTest {
         }
     }
 
-    /** "GUARANTEES 1, 2, .. (20 at most)": numbered as they come, whoever's they are; the 20th is as good as the 1st. */
+    /** "GUARANTEES 1, 2, .. (20 at most)": numbered as they come, whoever's they are, the 20th as the 1st. */
     private static void guaranteesAre1To20() {
         for (int holders = 1; holders <= 8; holders += 7) {
             GuaranteeBook book = new GuaranteeBook();
