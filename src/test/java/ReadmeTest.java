@@ -10,7 +10,7 @@ import java.util.TreeSet;
 import java.util.regex.Matcher;
 import java.util.regex.Pattern;
 
-/** README.md is true of the class: each call that it shows answers what it says, and no call of the face is left out. */
+/** README.md is true: each call that it shows answers what it says, and no call of the face is left out. */
 public final class ReadmeTest {
     private static final int PROMISED_CALLS = 512;
     private static final String[] ASKED_BY_WHAT = {"look", "of", "count"};
